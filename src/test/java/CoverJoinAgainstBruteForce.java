@@ -44,12 +44,13 @@ public final class CoverJoinAgainstBruteForce {
         CoverJoin real = new CoverJoin();
         Model model = new Model();
         int[] args = new int[4];
+        int editions = 1 + random.nextInt(8);
         int mostLines = 3 + random.nextInt(7);
         int contents = 1 + random.nextInt(4);
         int costs = random.nextBoolean() ? 4 : 100002;
         for (int call = 0; call < CALLS; call++) {
             int kind = kindOf(random, call);
-            fillArguments(random, kind, args);
+            fillArguments(random, kind, args, editions);
             if (kind == LINE) {
                 args[1] = random.nextInt(contents);
                 if (model.lines(args[0]) >= mostLines) {
@@ -83,13 +84,17 @@ public final class CoverJoinAgainstBruteForce {
         return makesRun && random.nextInt(4) != 0 ? HIT : kind;
     }
 
-    /** Numbers from one below the least to one or two above the greatest that there may be. */
-    private static void fillArguments(Random random, int kind, int[] args) {
+    /**
+     * Numbers from one below the least to above the greatest that there may be; but where an object
+     * keeps to few of its editions, these have many runs.
+     */
+    private static void fillArguments(Random random, int kind, int[] args, int editions) {
         boolean ofRun = kind == HIT || kind == COVERED || kind == ABOUT || kind == MAP || kind == JOIN
                 || kind == SHARE || kind == FRESH || kind == FALLS;
         boolean ofTwoRuns = kind == JOIN || kind == FALLS;
-        args[0] = random.nextInt(ofRun ? 16 : 10) - 1;
-        args[1] = random.nextInt(ofTwoRuns ? 16 : 10) - 1;
+        boolean toEdition = kind == MAP || kind == SAME || kind == FRESH;
+        args[0] = random.nextInt(ofRun ? 16 : editions + 2) - 1;
+        args[1] = random.nextInt(ofTwoRuns ? 16 : toEdition ? editions + 2 : 10) - 1;
         args[2] = random.nextInt(kind == SAME ? 10 : 6) - 1;
         args[3] = random.nextInt(3);
     }
