@@ -9,6 +9,7 @@ import java.util.Random;
 public final class CoverJoinAgainstBruteForce {
     private static final int OBJECTS = 1500;
     private static final int CALLS = 512;
+    private static final int FULL_OBJECTS = 300;
     private static int wrong = 0;
 
     private static final int EDITION = 0;
@@ -33,7 +34,11 @@ public final class CoverJoinAgainstBruteForce {
         for (int seed = 0; seed < OBJECTS && wrong < 20; seed++) {
             play(seed);
         }
-        System.out.println(wrong == 0 ? "both give the same answers" : wrong + " objects answer otherwise");
+        for (int seed = 0; seed < FULL_OBJECTS && wrong < 20; seed++) {
+            compareLongTexts(seed);
+            coverLongText(seed);
+        }
+        System.out.println(wrong == 0 ? "both give the same answers" : wrong + " answers are not the same");
         if (wrong != 0) {
             System.exit(1);
         }
@@ -118,6 +123,127 @@ public final class CoverJoinAgainstBruteForce {
             case DEAD: return x.dead(a[0]);
             case LEAST: return x.least(a[0]);
             default: return x.chosen();
+        }
+    }
+
+    /** Texts of up to 40 lines have too many ways to walk through, so their counts are kept in a table. */
+    private static void compareLongTexts(int seed) {
+        Random random = new Random(seed);
+        int contents = 1 + random.nextInt(12);
+        int[] first = longText(random, contents);
+        int[] second = longText(random, contents);
+        CoverJoin x = new CoverJoin();
+        addText(x, first);
+        addText(x, second);
+        int[] want = staying(first, second);
+        int fresh = second.length;
+        for (int i = 0; i < first.length; i++) {
+            due("seed " + seed + ", pair of " + i, want[i], x.same(0, 1, i));
+            fresh -= want[i] >= 0 ? 1 : 0;
+        }
+        due("seed " + seed + ", fresh", fresh, x.fresh(x.run(1, 0), 0, false));
+        int run = x.run(0, 0);
+        for (int i = 0; i < first.length; i += 2) {
+            x.hit(run, i);
+        }
+        int mapped = x.map(run, 1);
+        for (int i = 0; i < first.length; i++) {
+            if (want[i] >= 0) {
+                due("seed " + seed + ", mapped " + i, i % 2 == 0 ? 1 : 0, x.covered(mapped, want[i]) ? 1 : 0);
+            }
+        }
+    }
+
+    private static int[] longText(Random random, int contents) {
+        int[] made = new int[30 + random.nextInt(11)];
+        for (int i = 0; i < made.length; i++) {
+            made[i] = random.nextInt(contents);
+        }
+        return made;
+    }
+
+    private static void addText(CoverJoin x, int[] contents) {
+        int edition = x.edition();
+        for (int content : contents) {
+            x.line(edition, content, 0, false);
+        }
+    }
+
+    /** Every pair of every line is tried, from the last line to the first. */
+    private static int[] staying(int[] first, int[] second) {
+        int[][] most = new int[first.length + 1][second.length + 1];
+        int[][] pair = new int[first.length][second.length + 1];
+        for (int i = first.length - 1; i >= 0; i--) {
+            for (int from = second.length; from >= 0; from--) {
+                most[i][from] = most[i + 1][from];
+                pair[i][from] = -1;
+                for (int j = second.length - 1; j >= from; j--) {
+                    if (first[i] == second[j] && 1 + most[i + 1][j + 1] >= most[i][from]) {
+                        most[i][from] = 1 + most[i + 1][j + 1];
+                        pair[i][from] = j;
+                    }
+                }
+            }
+        }
+        int[] chosen = new int[first.length];
+        int from = 0;
+        for (int i = 0; i < first.length; i++) {
+            chosen[i] = pair[i][from];
+            from = chosen[i] >= 0 ? chosen[i] + 1 : from;
+        }
+        return chosen;
+    }
+
+    private static void coverLongText(int seed) {
+        Random random = new Random(seed);
+        CoverJoin x = new CoverJoin();
+        addText(x, new int[40]);
+        long[] hits = new long[14];
+        int[] costs = new int[14];
+        int costly = random.nextBoolean() ? 3 : 100001;
+        int hitEach = 2 + random.nextInt(20);
+        for (int r = 0; r < 14; r++) {
+            costs[r] = random.nextInt(costly);
+            x.run(0, costs[r]);
+            for (int k = 0; k < hitEach; k++) {
+                int line = random.nextInt(40);
+                x.hit(r, line);
+                hits[r] |= 1L << line;
+            }
+        }
+        long[] least = leastCover(hits, costs);
+        due("seed " + seed + ", least", least[0], x.least(0));
+        due("seed " + seed + ", chosen", least[1], x.chosen());
+    }
+
+    /** Every set of runs is tried, the least number first: the sum of costs and the set. */
+    private static long[] leastCover(long[] hits, int[] costs) {
+        long all = 0;
+        for (long some : hits) {
+            all |= some;
+        }
+        long[] best = {Long.MAX_VALUE, 0};
+        for (int set = 0; set < 1 << hits.length; set++) {
+            long hit = 0;
+            long sum = 0;
+            for (int r = 0; r < hits.length; r++) {
+                if ((set >> r & 1) == 1) {
+                    hit |= hits[r];
+                    sum += costs[r];
+                }
+            }
+            boolean fewer = Integer.bitCount(set) < Long.bitCount(best[1]);
+            if (hit == all && (sum < best[0] || sum == best[0] && fewer)) {
+                best = new long[] {sum, set};
+            }
+        }
+        return best;
+    }
+
+    private static void due(String what, long want, long got) {
+        if (got != want) {
+            wrong++;
+            System.out.println(what + " answered " + got + ", due is " + want);
         }
     }
 
